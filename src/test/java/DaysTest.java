@@ -52,6 +52,9 @@ public final class DaysTest {
         CHECK.due("two(1, 9, 24, 0)", x.two(1, 9, 24, 0), 10);
         CHECK.due("two(1, 9, 24, 1)", x.two(1, 9, 24, 1), 0);
         CHECK.due("two(0, 9, 24, 1)", x.two(0, 9, 24, 1), 10);
+        CHECK.due("two(9, 0, 24, 0)", x.two(9, 0, 24, 0), 10);
+        CHECK.due("two(9, 9, 1, 0)", new YardPump().two(9, 9, 1, 0), 810);
+        CHECK.due("two(9, 9, 1, 1)", new YardPump().two(9, 9, 1, 1), 0);
     }
 
     private static void rests() {

@@ -146,6 +146,10 @@ public final class PumpTextTest {
         pumped("7", -10);
         pumped("pumps 1 2;", -10);
         pumped("pum 1 2;", -10);
+        pumped("bump 1 2;", -10);
+        pumped("pump{ 1 2;", -14);
+        pumped("pumpz 1 2;", -10);
+        pumped("apump 1 2;", -10);
         pumped("pumpwell", -10);
         pumped("Pump 1 2;", -10);
         pumped("pumP 1 2;", -10);

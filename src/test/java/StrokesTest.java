@@ -100,6 +100,7 @@ public final class StrokesTest {
         CHECK.part("promise 6, leather");
         CHECK.due("now(9): 7 by a half", Check.told("pump 40 7;leather 50;").now(9), 3);
         CHECK.due("now(9): dry", Check.told("leather 9;").now(9), 0);
+        CHECK.due("now(9): a little dry", Check.told("leather 99;").now(9), 9);
         YardPump x = Check.told("leather 50;");
         CHECK.due("strokes(52)", x.strokes(52), 0);
         nowIs(x, 0, 50, 0, 0, 52, 0, 25, 260, 340, 5);
@@ -123,6 +124,10 @@ public final class StrokesTest {
         CHECK.due("hours dried the leather: now(1)", x.now(1), 0);
         x.strokes(1);
         CHECK.due("now(6): no gain", x.now(6), 0);
+        x = Check.told("pump 40 1;");
+        x.jug(99);
+        x.strokes(1);
+        CHECK.due("now(6): a gain of 1", x.now(6), 9);
     }
 
     private static void jugs() {
@@ -167,6 +172,10 @@ public final class StrokesTest {
         x = Check.told("leather 5;");
         CHECK.due("hours(1)", x.hours(1), 260);
         CHECK.due("now(1)", x.now(1), 0);
+        x = Check.told("flap 1;");
+        fill(x);
+        CHECK.due("hours(1), a T", x.hours(1), 1);
+        CHECK.due("now(1)", x.now(1), 90);
     }
 
     private static void wellComes() {

@@ -104,6 +104,7 @@ public final class TroublesTest {
         fits(seen("joint 26 5;", 2, 0, 1), 0, 0, 0, 0, 9, 0);
         fits(seen("joint 29 5;", 2, 0, 1), 0, 0, 0, 0, 8, 0);
         fits(seen("joint 25 5;", 2, 0, 0), 0, 0, 0, 0, 0, 0);
+        fits(seen("joint 26 5;well 26 20 1;", 2, 0, 1), 0, 0, 0, 0, 9, 0);
     }
 
     /** Numbers beyond what they may be. */
@@ -118,7 +119,10 @@ public final class TroublesTest {
         fits(seen("joint 98 5;well 20 0 1;", 1, 1, 8), 0, 0, 0, 0, 0, 0);
         fits(seen("joint 4 5;well 5 0 1;", 1, 1, 8), 0, 0, 0, 1, 0, 0);
         fits(seen("joint 99 5;well 5 0 1;", 1, 1, 8), 0, 0, 0, 0, 0, 0);
+        fits(seen("joint 99 5;well 6 0 1;", 1, 1, 8), 0, 0, 0, 1, 0, 0);
         fits(seen("well 98 0 1;flap 99;", 1, 24, 990), 0, 0, 0, 0, 9, 0);
+        fits(seen("pump 40 30;", 0, 0, 87), 0, 1, 0, 1, 0, 0);
+        fits(seen("pump 3 10;well 2 0 1;", 0, 0, 0), 0, 0, 0, 0, 9, 9);
         fits(seen("leather 30;", 0, 0, 0), 0, 8, 0, 9, 5, 6);
         fits(seen("leather 30;", 0, 0, 131), 0, 1, 0, 0, 0, 0);
         fits(seen("pump 3 10;well 1 0 1;", 0, 0, 2), 9, 4, 9, 9, 0, 9);
@@ -186,8 +190,20 @@ public final class TroublesTest {
         CHECK.due("tells(): nothing has a chance", x.tells(), 0);
         x = Check.told("pump 10 10;flap 99;");
         CHECK.due("tells(): 9, 18, 18", x.tells(), 1);
+        tellsByTwelveHours();
+        x = Check.told("pump 10 10;flap 99;");
         x.chance(4, 0);
         CHECK.due("tells(): 9, 9, 18", x.tells(), 2);
+    }
+
+    /** From 260 T, 22 an hour run out in 12 hours but not in 11, 20 an hour in 13 but not in 12. */
+    private static void tellsByTwelveHours() {
+        YardPump x = Check.told("flap 22;");
+        for (int t : new int[] {1, 3, 4, 5}) x.chance(t, 0);
+        CHECK.due("tells(): 9, 9, 9", x.tells(), 0);
+        x = Check.told("flap 20;");
+        for (int t : new int[] {1, 3, 4, 5}) x.chance(t, 0);
+        CHECK.due("tells(): 9, 18, 9", x.tells(), 1);
     }
 
     private static void where() {

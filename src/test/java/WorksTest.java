@@ -59,6 +59,10 @@ public final class WorksTest {
         x.cost(1, 0);
         x.cost(4, 0);
         chosen(x, 1, 8, 0);
+        x = Check.told("pump 6 10;");
+        chosen(x, 10, 8, 10);
+        chosen(x, 11, -9, -9);
+        chosen(Check.told("pump 5 10;"), 1, -9, -9);
         x = Check.told("pump 85 10;well 99 0 99;");
         chosen(x, 1, -9, -9);
         int[][] bad = {{-1, 0}, {10000, 0}, {0, -1}, {0, 2}, {Integer.MIN_VALUE, 0}, {Integer.MAX_VALUE, 0}};
@@ -114,6 +118,10 @@ public final class WorksTest {
         x = new YardPump();
         x.sand(7, 0);
         lines(x, 7, -9, 1);
+        x = new YardPump();
+        x.sand(1, 0);
+        x.sand(1, 1);
+        lines(x, 1, 1, 0);
     }
 
     private static void lines(YardPump x, int clean, int sandy, int agree) {
@@ -156,6 +164,9 @@ public final class WorksTest {
         looks(over(0, 0, 4, 2), 3, 1, 2, 3, 2);
         looks(over(0, 999, 999, 0, 0, 999, 999, 0), 999, -1, 1, 0, 1);
         looks(over(998, 0, 999, 999), 0, 999, 1, -997002, 1);
+        YardPump x = new YardPump();
+        for (int i = 0; i < 20; i++) CHECK.due("year number " + i, x.year(i, 3 * i + 1), i + 1);
+        looks(x, 100, 3, 1, 301, 1);
     }
 
     private static void aheadRefused() {

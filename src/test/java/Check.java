@@ -34,6 +34,23 @@ final class Check {
         return have;
     }
 
+    /** Types a text in as few calls as may be, eight bytes a call. */
+    static int writeFast(YardPump x, String text) {
+        int have = x.count(3);
+        for (int from = 0; from < text.length(); from += 8) {
+            int n = Math.min(8, text.length() - from);
+            long v = 0;
+            for (int i = 0; i < n; i++) v = v << 8 | text.charAt(from + i);
+            have = x.type(v, n);
+        }
+        return have;
+    }
+
+    /** Pours until EMPTY is so much, and spills nothing. */
+    static void pourTo(YardPump x, int empty) {
+        for (int jug = 0; jug < 20 && x.now(0) > empty; jug++) x.jug(Math.min(99, x.now(0) - empty));
+    }
+
     /** A new pump that is told by a text. */
     static YardPump told(String text) {
         YardPump x = new YardPump();

@@ -1,4 +1,7 @@
 import java.io.IOException;
+import java.lang.reflect.Field;
+import java.lang.reflect.Method;
+import java.lang.reflect.Modifier;
 import java.nio.file.Files;
 import java.nio.file.Path;
 import java.util.regex.Matcher;
@@ -25,7 +28,39 @@ public final class LanguageTest {
         }
         Matcher made = Pattern.compile("\\bnew\\b[^;]*").matcher(bare);
         while (made.find()) CHECK.yes("made in a field alone: " + made.group(), inField(bare, made.start()));
+        sizes(YardPump.class);
+        for (Class<?> inside : YardPump.class.getDeclaredClasses()) sizes(inside);
+        CHECK.yes("twelve classes at most", YardPump.class.getDeclaredClasses().length < 12);
+        methodLengths(source);
         CHECK.end("LanguageTest");
+    }
+
+    /** Rules 3, 5 and 11: static fields are final, fields are few, a method takes seven parameters at most. */
+    private static void sizes(Class<?> type) {
+        int fields = 0;
+        for (Field field : type.getDeclaredFields()) {
+            boolean isStatic = Modifier.isStatic(field.getModifiers());
+            if (!isStatic) fields++;
+            CHECK.yes("static " + field + " is final", !isStatic || Modifier.isFinal(field.getModifiers()));
+            CHECK.yes(field + " is no row of rows of objects", !field.getType().getName().startsWith("[[L"));
+        }
+        CHECK.yes(type + " has twenty fields at most", fields <= 20);
+        CHECK.yes(type + " is no inner class", type == YardPump.class || Modifier.isStatic(type.getModifiers()));
+        for (Method method : type.getDeclaredMethods()) {
+            CHECK.yes(method + " takes seven numbers at most", method.getParameterCount() <= 7);
+        }
+    }
+
+    /** Rule 11: methods stay short. A method ends where its first line's indent comes again with a brace. */
+    private static void methodLengths(String source) {
+        String[] lines = source.split("\n");
+        for (int i = 0; i < lines.length; i++) {
+            Matcher head = Pattern.compile("( {4}| {8})[A-Za-z][A-Za-z\\[\\] ]*\\(.*\\) \\{").matcher(lines[i]);
+            if (!head.matches()) continue;
+            int end = i;
+            while (end < lines.length && !lines[end].equals(head.group(1) + "}")) end++;
+            CHECK.yes("short: " + lines[i].trim(), end - i < 60);
+        }
     }
 
     /** All calls share one room: what is made is made with the object. */
